@@ -1,0 +1,68 @@
+import java.lang.reflect.Constructor;
+import java.lang.reflect.Field;
+import java.lang.reflect.Method;
+import java.lang.reflect.Modifier;
+import java.util.HashSet;
+import java.util.Set;
+import java.util.TreeSet;
+
+/** The members that the class shows are those of the document's face, and no others. */
+public final class FaceTest {
+    private static final String FACE = "append(int)int bestPeak(int,int,int)int clear()int deliver(int,int,int)int "
+            + "delivery(int,int)long drop(int,int,int,int)int event(int,int)int execute()int findLot(int,int,int)int "
+            + "fire(int,int,int,int)int firstError()int glaze(int,int)int grade(int)int largest(int,int)int "
+            + "lot(int,int)int pack()int pile(int,int)int position(int,int,int)int possible(int,int,int,int,int)int "
+            + "replace(int)int setBoxSize(int)int setGlaze(int,int,int)int setPosition(int,int,int,int)int "
+            + "setQuality(int,int,int)int setSharpness(int)int shadeAt(int,int,int,int)int takeBack(int,int,int)int "
+            + "total(int)long undo()int wouldHide(int)int";
+
+    public static void main(String[] args) {
+        Class<?> face = TileFactory.class;
+        Checks.same("the class is public and final", face.getModifiers(), Modifier.PUBLIC | Modifier.FINAL);
+        Set<String> shown = new TreeSet<>();
+        Set<String> names = new HashSet<>();
+        for (Method method : face.getDeclaredMethods()) {
+            if (!Modifier.isPrivate(method.getModifiers()) && !method.isSynthetic()) {
+                shown.add(written(method));
+                names.add(method.getName());
+                Checks.same(method + " is public", method.getModifiers(), Modifier.PUBLIC);
+            }
+        }
+        Checks.same("methods", String.join(" ", shown), FACE);
+        checkFields(face);
+        Constructor<?>[] constructors = face.getDeclaredConstructors();
+        Checks.same("constructors", constructors.length, 1);
+        Checks.same("public constructor", constructors[0].getModifiers(), Modifier.PUBLIC);
+        checkPrivateNames(face, names);
+        for (Class<?> inside : face.getDeclaredClasses()) {
+            Checks.same(inside + " is static", inside.getModifiers() & Modifier.STATIC, Modifier.STATIC);
+            Checks.same(inside + " is not shown", inside.getModifiers() & (Modifier.PUBLIC | Modifier.PROTECTED), 0);
+            checkPrivateNames(inside, names);
+        }
+        Checks.finish();
+    }
+
+    private static String written(Method method) {
+        StringBuilder types = new StringBuilder();
+        for (Class<?> type : method.getParameterTypes()) {
+            types.append(types.length() > 0 ? "," : "").append(type.getName());
+        }
+        return method.getName() + "(" + types + ")" + method.getReturnType().getName();
+    }
+
+    private static void checkFields(Class<?> face) {
+        for (Field field : face.getDeclaredFields()) {
+            boolean isShown = !Modifier.isPrivate(field.getModifiers());
+            Checks.same(field + " is shown", isShown ? 1 : 0, field.getName().equals("NONE") ? 1 : 0);
+        }
+    }
+
+    private static void checkPrivateNames(Class<?> type, Set<String> names) {
+        for (Method method : type.getDeclaredMethods()) {
+            boolean isFace = Modifier.isPublic(method.getModifiers()) && type == TileFactory.class;
+            if (!isFace && names.contains(method.getName())) {
+                Checks.fail(method + " bears the name of a method of the face");
+            }
+        }
+    }
+}
