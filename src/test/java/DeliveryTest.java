@@ -3,6 +3,7 @@ public final class DeliveryTest {
     public static void main(String[] args) {
         promise10Deliver();
         promise10ChoosesLot();
+        promise10ChoosesAmongEqualOnes();
         promise10Complaints();
         promise10Refuses();
         promise10AtMost40();
@@ -15,6 +16,8 @@ public final class DeliveryTest {
         promise13LimitsHidden();
         promise13Refuses();
         promise14Undo();
+        promise14UndoesEveryCall();
+        promise14LeavesNothingBehind();
         promise14AtMostSix();
         Checks.finish();
     }
@@ -76,6 +79,21 @@ public final class DeliveryTest {
         Checks.same("its lot", x.delivery(3, 0), 3);
         Checks.same("one of 1, 9 and 14", x.deliver(0, 1, 1), 4);
         Checks.same("the one with 1", x.delivery(4, 0), 1);
+    }
+
+    private static void promise10ChoosesAmongEqualOnes() {
+        TileFactory x = new TileFactory();
+        x.fire(0, 0, 1000, 13);
+        x.fire(0, 0, 1010, 13);
+        x.fire(0, 0, 990, 13);
+        x.grade(10);
+        x.pack();
+        for (int[] due : new int[][] {{4, 0}, {0, 1}, {2, 2}}) {
+            Checks.same("nine boxes each", x.largest(0, 1), 9);
+            int delivery = x.deliver(0, 1, 9);
+            Checks.same("smallest shade that is left", x.delivery(delivery, 0), due[0]);
+            Checks.same("number", delivery, due[1]);
+        }
     }
 
     private static void promise10Complaints() {
@@ -154,6 +172,10 @@ public final class DeliveryTest {
         Checks.same("loose as before", x.lot(0, 3), 16);
         Checks.same("event of all", x.event(0, 1), 10);
         Checks.same("no position broke them", x.position(0, 0, 2), 0);
+        x.deliver(0, 1, 4);
+        Checks.same("the last box", x.drop(0, 8, 1, 0), 0);
+        Checks.same("undo", x.undo(), 5);
+        Checks.same("boxes after undo", x.lot(0, 4), 1);
     }
 
     private static void promise11LimitsHidden() {
@@ -209,6 +231,8 @@ public final class DeliveryTest {
         Checks.same("no customers", x.total(8), 0);
         Checks.same("all of its boxes", x.delivery(0, 1), 4);
         Checks.same("value stays", x.total(14), 1000);
+        x.undo();
+        Checks.same("out after undo", x.delivery(0, 2), 2);
     }
 
     private static void promise12Refuses() {
@@ -251,6 +275,11 @@ public final class DeliveryTest {
         Checks.same("event number", x.event(0, 1), 7);
         Checks.same("with customers", x.total(8), 36);
         Checks.raisesState("no complaints then", () -> x.replace(0));
+        x.undo();
+        Checks.same("complaints after undo", x.delivery(0, 3), 7);
+        // 9 * 9 / 44 = 1
+        x.deliver(0, 1, 1);
+        Checks.same("a single complaint", x.replace(1), 1);
     }
 
     private static void promise13LimitsHidden() {
@@ -302,6 +331,67 @@ public final class DeliveryTest {
         Checks.same("saves the state", x.total(12), 5);
         Checks.same("and is undone", x.undo(), 4);
         Checks.same("state before it", View.ofState(x), before);
+    }
+
+    /** Undo brings back all that was seen, and the same call leads to the same state again. */
+    private static void undone(TileFactory x, String what, Checks.Call call) {
+        String before = View.ofState(x);
+        long answer = call.answer();
+        String after = View.ofState(x);
+        if (after.equals(before)) {
+            Checks.fail(what + " changed nothing");
+        }
+        long saved = x.total(12);
+        Checks.same("undo of " + what, x.undo(), saved - 1);
+        Checks.same("state after undo of " + what, View.ofState(x), before);
+        Checks.same(what + " once more", call.answer(), answer);
+        Checks.same("state after " + what + " once more", View.ofState(x), after);
+    }
+
+    private static void promise14UndoesEveryCall() {
+        TileFactory x = new TileFactory();
+        undone(x, "setGlaze", () -> x.setGlaze(0, 9, 11));
+        undone(x, "setGlaze of the last", () -> x.setGlaze(3, 0, 20));
+        undone(x, "setQuality", () -> x.setQuality(0, 40, 101));
+        undone(x, "setPosition", () -> x.setPosition(0, 0, -20, 10));
+        undone(x, "setPosition of the last", () -> x.setPosition(2, 7, 1, 30));
+        undone(x, "setSharpness", () -> x.setSharpness(30));
+        undone(x, "setBoxSize", () -> x.setBoxSize(7));
+        undone(x, "fire", () -> x.fire(0, 0, 1000, 30));
+        undone(x, "fire on new piles", () -> x.fire(2, 3, 1000, 10));
+        undone(x, "fire on the same piles", () -> x.fire(0, 0, 1000, 20));
+        undone(x, "grade", () -> x.grade(2));
+        undone(x, "pack", x::pack);
+        undone(x, "deliver", () -> x.deliver(0, 1, 9));
+        undone(x, "deliver again", () -> x.deliver(0, 2, 1));
+        undone(x, "drop", () -> x.drop(0, 9, 1, 0));
+        undone(x, "drop again", () -> x.drop(0, 9, 1, 0));
+        undone(x, "takeBack", () -> x.takeBack(0, 3, 1));
+        undone(x, "replace", () -> x.replace(0));
+        undone(x, "fire at last", () -> x.fire(0, 0, 1000, 30));
+        Checks.same("undo of two calls", x.undo(), 5);
+        Checks.same("undo of the second", x.undo(), 4);
+        Checks.same("complaints are back", x.delivery(0, 3) > 0 ? 1 : 0, 1);
+    }
+
+    private static void promise14LeavesNothingBehind() {
+        TileFactory x = withBoxes(true);
+        x.fire(0, 1, 1000, 30);
+        x.undo();
+        x.fire(0, 2, 1000, 10);
+        Checks.same("tiles of the new pile", x.pile(0, 2), 80);
+        Checks.same("hidden of the new pile", x.pile(0, 3), 8);
+        x.grade(1);
+        x.pack();
+        x.undo();
+        x.undo();
+        x.undo();
+        x.fire(0, 3, 1000, 10);
+        x.grade(1);
+        int[] due = {3, 8, 1, 80, 0, 8};
+        for (int property = 0; property < 6; property++) {
+            Checks.same("the new lot " + property, x.lot(1, property), due[property]);
+        }
     }
 
     private static void promise14AtMostSix() {

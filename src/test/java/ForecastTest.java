@@ -66,7 +66,11 @@ public final class ForecastTest {
         x.setGlaze(1, 0, 1);
         Checks.same("only at the top", x.bestPeak(1, 1, 2), 1200);
         Checks.same("out of reach", x.bestPeak(1, 1, 3), TileFactory.NONE);
-        Checks.same("one position of kiln 2", x.bestPeak(2, 1, 2), 1200 - 4 * 5 + 20);
+        Checks.same("five positions of kiln 2", x.bestPeak(2, 1, 2), 1200);
+        for (int position = 1; position < 8; position++) {
+            x.setPosition(1, position, -1, 0);
+        }
+        Checks.same("a single position", x.bestPeak(1, 1, 2), 1200);
     }
 
     private static void promise24Refuses() {

@@ -137,7 +137,15 @@ public final class QueryTest {
         }
         Checks.same("latest: 30 * 30 / 100", x.event(0, 1), 9);
         Checks.same("oldest: 11 * 30 / 100", x.event(19, 1), 3);
+        Checks.same("kind of the oldest", x.event(19, 0), 1);
         Checks.same("only 20 are kept", x.event(20, 0), TileFactory.NONE);
+        x.grade(1);
+        Checks.same("kind of the latest", x.event(0, 0), 2);
+        Checks.same("kind of the one before", x.event(1, 0), 1);
+        x.drop(0, 8, 1, 2);
+        Checks.same("kind of breaking", x.event(0, 0), 4);
+        Checks.same("kind of the grading", x.event(1, 0), 2);
+        Checks.same("kind of the firing before", x.event(2, 0), 1);
     }
 
     private static void promise22Total() {
