@@ -10,6 +10,7 @@ public final class BenchTest {
         promise8Grade();
         promise8StopsEarly();
         promise8LotsInOrder();
+        promise8AllLots();
         promise8Refuses();
         promise9Pack();
         Checks.finish();
@@ -174,6 +175,32 @@ public final class BenchTest {
         lotIs(x, 2, 1, 8, 2, 8, 0, 0);
         lotIs(x, 3, 0, 9, 1, 80, 0, 0);
         Checks.same("lots", x.total(10), 4);
+    }
+
+    /** Every glaze, shade and grade: 80 piles, 160 lots. */
+    private static void promise8AllLots() {
+        TileFactory x = new TileFactory();
+        x.setSharpness(1);
+        for (int glaze = 3; glaze >= 0; glaze--) {
+            for (int shade = 19; shade >= 0; shade--) {
+                x.setGlaze(glaze, shade, 0);
+                x.fire(0, glaze, 1000, 10);
+            }
+        }
+        Checks.same("piles", x.total(9), 80);
+        pileIs(x, 79, 0, 0, 80, 8);
+        Checks.same("one of each pile", x.grade(1), 80);
+        Checks.same("lots", x.total(10), 160);
+        lotIs(x, 158, 0, 0, 1, 79, 0, 7);
+        lotIs(x, 159, 0, 0, 2, 1, 0, 0);
+        Checks.same("lots of a glaze", x.glaze(2, 4), 40);
+        Checks.same("pack", x.pack(), 80 * 7);
+        Checks.same("smallest shade", x.deliver(3, 1, 7), 0);
+        Checks.same("its lot", x.delivery(0, 0), 38);
+        x.fire(0, 0, 1000, 10);
+        x.grade(10);
+        Checks.same("no more lots", x.total(10), 160);
+        lotIs(x, 159, 0, 0, 2, 9, 0, 0);
     }
 
     private static void promise8Refuses() {

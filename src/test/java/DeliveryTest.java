@@ -18,6 +18,8 @@ public final class DeliveryTest {
         promise14Undo();
         promise14UndoesEveryCall();
         promise14LeavesNothingBehind();
+        promise14ForgetsWhatWasUndone();
+        promise14RestoresWhatIsWhat();
         promise14AtMostSix();
         Checks.finish();
     }
@@ -391,6 +393,56 @@ public final class DeliveryTest {
         int[] due = {3, 8, 1, 80, 0, 8};
         for (int property = 0; property < 6; property++) {
             Checks.same("the new lot " + property, x.lot(1, property), due[property]);
+        }
+    }
+
+    private static void write(TileFactory x, String text) {
+        for (char sign : text.toCharArray()) {
+            x.append(sign);
+        }
+    }
+
+    private static void promise14ForgetsWhatWasUndone() {
+        TileFactory x = new TileFactory();
+        write(x, "fire 0 1 1000 10;grade 1;pack;ship 1 1 2");
+        Checks.same("execute", x.execute(), 4);
+        x.undo();
+        Checks.same("boxes that were undone", x.largest(1, 1), 0);
+        Checks.raisesState("deliver what was undone", () -> x.deliver(1, 1, 1));
+        Checks.raisesIndex("drop what was undone", () -> x.drop(1, 8, 1, 0));
+        Checks.raisesIndex("take back what was undone", () -> x.takeBack(0, 1, 0));
+        Checks.raisesIndex("replace what was undone", () -> x.replace(0));
+        Checks.same("lot that was undone", x.findLot(1, 8, 1), TileFactory.NONE);
+        x.fire(0, 2, 1000, 1);
+        x.grade(1);
+        Checks.same("the new lot has no boxes", x.lot(0, 4), 0);
+        Checks.same("the new lot has its tiles", x.lot(0, 3), 8);
+    }
+
+    /** The same rows hold other piles, lots and deliveries before an undo than behind it. */
+    private static void promise14RestoresWhatIsWhat() {
+        TileFactory x = new TileFactory();
+        for (int glaze = 0; glaze < 4; glaze++) {
+            int peak = 1000 + 10 * glaze;
+            x.setQuality(glaze, 0, 1 + glaze);
+            x.fire(0, glaze, peak, 10 + glaze);
+            String bench = View.ofState(x);
+            x.grade(1);
+            String graded = View.ofState(x);
+            x.fire(0, 3 - glaze, 900 + 10 * glaze, 9);
+            x.undo();
+            Checks.same("graded", View.ofState(x), graded);
+            x.undo();
+            Checks.same("bench", View.ofState(x), bench);
+            x.grade(1);
+            x.pack();
+            x.deliver(glaze, 1, 1 + glaze);
+            String delivered = View.ofState(x);
+            x.setSharpness(99);
+            x.undo();
+            Checks.same("delivered", View.ofState(x), delivered);
+            Checks.same("undo to the new object", x.undo() + x.undo() + x.undo() + x.undo() + x.undo(), 10);
+            Checks.same("no lots", x.total(10), 0);
         }
     }
 
