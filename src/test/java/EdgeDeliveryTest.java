@@ -104,12 +104,16 @@ public final class EdgeDeliveryTest {
         }
         x.takeBack(0, 1, 0);
         x.takeBack(39, 1, 0);
-        String before = View.ofAll(x);
         Checks.raisesState("delivery 41", () -> x.deliver(0, 1, 1));
         Checks.raisesState("delivery 41 of a lot without boxes", () -> x.deliver(1, 2, 1));
         Checks.raisesArgument("the argument comes first", () -> x.deliver(0, 1, 0));
         Checks.raisesIndex("the index comes first", () -> x.deliver(4, 1, 1));
-        Checks.same("after delivery 41", View.ofAll(x), before);
+        Checks.same("boxes that are left", x.lot(0, 4), 760);
+        Checks.same("loose tiles that are left", x.lot(0, 3), 2);
+        Checks.same("tiles with customers", x.total(8), 38);
+        Checks.same("the latest event", x.event(0, 1), 39);
+        Checks.same("the last delivery", x.delivery(39, 1), 1);
+        Checks.raisesIndex("no delivery behind it", () -> x.delivery(40, 1));
         Recipes.write(x, "pack;ship 0 1 1;pack");
         Checks.same("delivery 41 in a text", x.execute(), 1);
         Checks.same("deliveries", x.total(11), 40);

@@ -188,7 +188,8 @@ public final class EdgeSettingsTest {
         Checks.same("offset is 40", x.position(0, 0, 0), 40);
         Checks.same("previous offset", x.setPosition(0, 0, 0, 0), 40);
         for (int offset : Refusal.outside(-40, 40)) {
-            Refusal.argument("setPosition(0, 0, " + offset + ", 0)", Recipes::busy, y -> y.setPosition(0, 0, offset, 0));
+            Refusal.argument("setPosition(0, 0, " + offset + ", 0)", Recipes::busy,
+                    y -> y.setPosition(0, 0, offset, 0));
         }
     }
 
@@ -235,7 +236,7 @@ public final class EdgeSettingsTest {
         }
     }
 
-    /** "if a lot has boxes": a single box of any lot is enough, and loose tiles, piles and lots without boxes are not. */
+    /** "if a lot has boxes": a single box of any lot is enough; loose tiles, piles and lots without boxes are not. */
     private static void promise6RefusedIfALotHasBoxes() {
         Refusal.state("one box", () -> Recipes.withLot(10, 0), y -> y.setBoxSize(10));
         Refusal.state("one box of the second lot", EdgeSettingsTest::withBoxInSecondLot, y -> y.setBoxSize(5));

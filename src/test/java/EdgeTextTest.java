@@ -19,6 +19,7 @@ public final class EdgeTextTest {
         promise31StopsAtTheFirstThatWouldThrow();
         promise31NoCommandIsExecuted();
         promise31EdgesOfEachCommand();
+        promise31EachCommandDoesNothingElse();
         promise31IsOneCall();
         Checks.finish();
     }
@@ -304,6 +305,27 @@ public final class EdgeTextTest {
         executedIs("drop 0 8 0 0", 0);
         executedIs("drop 0 9 1 0", 0);
         executedIs("ship 0 1 5;drop 0 8 1 0", 1);
+    }
+
+    /** The arguments of a command are gone when the next one comes, which may have fewer. */
+    private static void promise31EachCommandDoesNothingElse() {
+        TileFactory x = new TileFactory();
+        x.setSharpness(0);
+        x.setBoxSize(1);
+        Recipes.write(x, "fire 0 0 1000 5;grade 1;pack;fire 0 0 930 3;grade 1;pack;ship 0 1 1;pack");
+        Checks.same("executed", x.execute(), 8);
+        Checks.same("lots of shades 8 and 1", x.lot(1, 1), 1);
+        Checks.same("deliveries", x.total(11), 1);
+        Checks.same("boxes of shade 8", x.lot(0, 4), 40);
+        Checks.same("boxes of shade 1 but the one that is shipped", x.lot(1, 4), 23);
+        Checks.same("loose tiles", x.total(6), 0);
+        Checks.same("nothing broke", x.total(4), 0);
+        Recipes.write(x, "fire 0 0 1000 5;grade 1");
+        Checks.same("grade alone", x.execute(), 2);
+        Checks.same("packs nothing", x.total(6), 40);
+        Recipes.write(x, "drop 0 8 1 1;fire 0 0 1000 5");
+        Checks.same("fire alone", x.execute(), 2);
+        Checks.same("grades nothing", x.total(5), 40);
     }
 
     /** "Undoable, as one call": of all its commands together one state is saved. */

@@ -8,13 +8,16 @@ import java.util.TreeSet;
 
 /** The members that the class shows are those of the document's face, and no others. */
 public final class FaceTest {
-    private static final String FACE = "append(int)int bestPeak(int,int,int)int clear()int deliver(int,int,int)int "
-            + "delivery(int,int)long drop(int,int,int,int)int event(int,int)int execute()int findLot(int,int,int)int "
-            + "fire(int,int,int,int)int firstError()int glaze(int,int)int grade(int)int largest(int,int)int "
-            + "lot(int,int)int pack()int pile(int,int)int position(int,int,int)int possible(int,int,int,int,int)int "
-            + "replace(int)int setBoxSize(int)int setGlaze(int,int,int)int setPosition(int,int,int,int)int "
-            + "setQuality(int,int,int)int setSharpness(int)int shadeAt(int,int,int,int)int takeBack(int,int,int)int "
-            + "total(int)long undo()int wouldHide(int)int";
+    /** Behind each method stand the exceptions that it declares: I, A and S for Index.., IllegalA.. and IllegalS.. */
+    private static final String FACE = "append(int)int/AS bestPeak(int,int,int)int/IA clear()int "
+            + "deliver(int,int,int)int/IAS delivery(int,int)long/IA drop(int,int,int,int)int/IAS "
+            + "event(int,int)int/A execute()int/S findLot(int,int,int)int/A "
+            + "fire(int,int,int,int)int/IAS firstError()int glaze(int,int)int/IA "
+            + "grade(int)int/AS largest(int,int)int/IA lot(int,int)int/IA pack()int pile(int,int)int/IA "
+            + "position(int,int,int)int/IA possible(int,int,int,int,int)int/IA replace(int)int/IS "
+            + "setBoxSize(int)int/AS setGlaze(int,int,int)int/IA setPosition(int,int,int,int)int/IA "
+            + "setQuality(int,int,int)int/IA setSharpness(int)int/A shadeAt(int,int,int,int)int/IA "
+            + "takeBack(int,int,int)int/IAS total(int)long/A undo()int/S wouldHide(int)int/A";
 
     public static void main(String[] args) {
         Class<?> face = TileFactory.class;
@@ -47,7 +50,21 @@ public final class FaceTest {
         for (Class<?> type : method.getParameterTypes()) {
             types.append(types.length() > 0 ? "," : "").append(type.getName());
         }
-        return method.getName() + "(" + types + ")" + method.getReturnType().getName();
+        StringBuilder exceptions = new StringBuilder();
+        for (Class<?> exception : method.getExceptionTypes()) {
+            exceptions.append(exceptions.length() > 0 ? "" : "/").append(letterOf(exception));
+        }
+        return method.getName() + "(" + types + ")" + method.getReturnType().getName() + exceptions;
+    }
+
+    private static char letterOf(Class<?> exception) {
+        if (exception == IndexOutOfBoundsException.class) {
+            return 'I';
+        }
+        if (exception == IllegalArgumentException.class) {
+            return 'A';
+        }
+        return exception == IllegalStateException.class ? 'S' : '?';
     }
 
     private static void checkFields(Class<?> face) {

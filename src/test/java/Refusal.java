@@ -1,4 +1,4 @@
-/** A refused call throws what is due, and its factory goes on like a twin that was made alike and never got the call. */
+/** A refused call throws what is due, and its factory goes on like a twin that never got the call. */
 final class Refusal {
     interface Recipe {
         TileFactory make();
